@@ -281,15 +281,20 @@ final class OracleTest {
                 return one(3) ? "{\"p\":1,\"q\":null,\"r\":\"\"}" : "\"a\"";
             }
             if (t.contains("\"array\"")) {
-                return one(2) ? "[]" : "[" + value(t.substring(t.indexOf("\"items\":") + 8)) + "]";
+                return one(2) ? "[]" : "[" + value(behind(t, "\"items\":")) + "]";
             }
             if (t.contains("\"map\"")) {
-                return one(2) ? "{}" : "{\"k\":" + value(t.substring(t.indexOf("\"values\":") + 9)) + "}";
+                return one(2) ? "{}" : "{\"k\":" + value(behind(t, "\"values\":")) + "}";
             }
             if (t.contains("\"record\"")) {
                 return "{\"p\":" + value("\"int\"") + ",\"q\":" + value("\"null\"") + ",\"r\":" + value("\"string\"") + "}";
             }
             return new String[] {"\"\"", "\"a\"", "\"aa\"", "\"b\"", "\"\\u00ff\""}[random.nextInt(5)];
+        }
+
+        private static String behind(String text, String part) {
+            int p = text.indexOf(part);
+            return p < 0 ? "\"int\"" : text.substring(p + part.length());
         }
 
         /** An object of these members in any order, now and then with another, or with one left out. */
