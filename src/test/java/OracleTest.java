@@ -12,10 +12,10 @@ final class OracleTest {
 
     public static void main(String[] args) {
         Random random = new Random(20261115);
-        for (int run = 0; run < 400; run++) {
+        for (int run = 0; run < 800; run++) {
             one(random);
         }
-        for (int run = 0; run < 4000; run++) {
+        for (int run = 0; run < 8000; run++) {
             pieces(random);
         }
         for (int fault = 0; fault < FAULTS.length; fault++) {
@@ -31,11 +31,17 @@ final class OracleTest {
         Oracle.Type[] kept = new Oracle.Type[8];
         int size = 1 + random.nextInt(60);
         String before = "\"int\"";
+        // An object has 512 calls; 128 of them ask what the places keep.
+        int left = 512 - 128;
         for (int i = 0; i < 30; i++) {
             boolean isVaried = random.nextInt(2) == 0;
             String text = isVaried ? varied(before, random) : new Maker(random, size).schema();
             if (random.nextInt(3) == 0) {
                 text = spoilt(text, random);
+            }
+            left -= Kit.callsFor(text) + 2;
+            if (left < 0 || text.length() > 4096) {
+                break;
             }
             Oracle.Type type = asked(x, text);
             before = type == null ? before : text;
@@ -76,14 +82,12 @@ final class OracleTest {
 
     /** Reads the text on both sides; null with a fault. */
     private static Oracle.Type asked(SchemaReader x, String text) {
-        if (text.length() > 4096) {
-            return null;
-        }
         byte[] bytes = text.getBytes(StandardCharsets.ISO_8859_1);
         try {
             Oracle.Type type = Oracle.read(bytes);
             KIT.dueFault(x, text, 0, -1);
-            KIT.due("plain form of " + text, Kit.plain(x), Oracle.plain(type));
+            KIT.due("print() of " + text, x.print(), Kit.printOf(Oracle.plain(type)));
+            KIT.duePlain(text, Oracle.plain(type));
             FAULTS[0]++;
             return type;
         } catch (Oracle.Stop stop) {

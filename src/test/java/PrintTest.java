@@ -1,8 +1,5 @@
-import java.nio.charset.StandardCharsets;
-
 /** Promise 8: the print of the plain form. */
 final class PrintTest {
-    private static final long START = 0xC15D213AA4D7A795L;
     private static final Kit KIT = new Kit("PrintTest");
 
     public static void main(String[] args) {
@@ -41,18 +38,7 @@ final class PrintTest {
         SchemaReader x = new SchemaReader();
         Kit.put(x, text);
         KIT.due("schema() of " + text, x.schema(), 0);
-        KIT.due("print() of " + text, x.print(), bitByBit(Kit.plain(x)));
-        KIT.due("print() again of " + text, x.print(), due == -1 ? bitByBit(Kit.plain(x)) : due);
-    }
-
-    private static long bitByBit(String plain) {
-        long p = START;
-        for (byte b : plain.getBytes(StandardCharsets.ISO_8859_1)) {
-            p ^= b & 255;
-            for (int i = 0; i < 8; i++) {
-                p = (p & 1) == 0 ? p >>> 1 : p >>> 1 ^ START;
-            }
-        }
-        return p;
+        KIT.due("print() of " + text, x.print(), Kit.printOf(Kit.plain(x)));
+        KIT.due("print() again of " + text, x.print(), due == -1 ? Kit.printOf(Kit.plain(x)) : due);
     }
 }
