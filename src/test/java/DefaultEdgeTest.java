@@ -162,6 +162,10 @@ final class DefaultEdgeTest {
         fit(type, inner + "[]" + "}]".repeat(10));
         misfit(type, inner + "@1" + "}]".repeat(10), inner + "@null" + "}]".repeat(10));
         KIT.dueFaultAt(Texts.withDefault(type, inner + "[@[]]" + "}]".repeat(10)), 1);
+        String maps = "{\"k\":{\"f\":".repeat(10);
+        fit(Texts.map("\"R\""), maps + "{}" + "}}".repeat(10));
+        misfit(Texts.map("\"R\""), maps + "@[]" + "}}".repeat(10), maps + "{\"k\":@1}" + "}}".repeat(10));
+        KIT.dueFaultAt(Texts.withDefault(Texts.map("\"R\""), maps + "{\"k\":@{}}" + "}}".repeat(10)), 1);
         misfit("[\"R\"]", "{\"f\":".repeat(20) + "@{}" + "}".repeat(20), "{\"f\":".repeat(21) + "@1" + "}".repeat(21));
     }
 

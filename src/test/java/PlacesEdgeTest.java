@@ -18,6 +18,7 @@ final class PlacesEdgeTest {
         keepNothing();
         keepInstead();
         keptStays();
+        keptIsTheLatestAlone();
         askAtEveryPlace();
         askNowhere();
         askWhatKeepsNone();
@@ -27,6 +28,8 @@ final class PlacesEdgeTest {
         symbolsOfEnums();
         fieldsOfRecords();
         askedForAlready();
+        askedAsDeepAsSchemasLie();
+        callsOf512();
         KIT.end();
     }
 
@@ -216,6 +219,28 @@ final class PlacesEdgeTest {
         KIT.due("fits(2, 0)", x.fits(2, 0), false);
     }
 
+    /** "the LATEST is kept": nothing of what was the latest, or was kept there, before it. */
+    private static void keptIsTheLatestAlone() {
+        String with = Texts.enumOf("\"E\"", "[\"a\"]", "\"a\"");
+        String without = Texts.enumOf("\"E\"", "[\"a\"]");
+        SchemaReader x = Kit.keeping(Texts.enumOf("\"E\"", "[\"b\"]"));
+        Kit.put(x, with);
+        x.schema();
+        Kit.keep(x, 1, without);
+        KIT.due("fits(0, 1), the default being that of the latest before", x.fits(0, 1), false);
+        Kit.keep(x, 1, with);
+        KIT.due("fits(0, 1) with a default", x.fits(0, 1), true);
+        Kit.keep(x, 1, without);
+        Kit.keep(x, 1, without);
+        KIT.due("fits(0, 1), the default being that of what was kept there", x.fits(0, 1), false);
+        Kit.put(x, Texts.record("\"R\"", Texts.field("\"a\"", "\"int\"", "1")));
+        x.schema();
+        Kit.keep(x, 2, Texts.record("\"R\"", Texts.field("\"a\"", "\"int\"")));
+        Kit.keep(x, 3, Texts.record("\"R\""));
+        KIT.due("fits(3, 2), the field's default being that of the latest before", x.fits(3, 2), false);
+        KIT.due("fits(2, 3)", x.fits(2, 3), true);
+    }
+
     /** "a place fits what is kept at another one (or the same)": each of the eight with each. */
     private static void askAtEveryPlace() {
         SchemaReader x = Kit.keeping("\"null\"", "\"boolean\"", "\"int\"", "\"long\"", "\"bytes\"", "\"string\"", "[\"null\"]",
@@ -375,5 +400,64 @@ final class PlacesEdgeTest {
         String list = Texts.record("\"R\"", Texts.field("\"n\"", "[\"null\",\"R\"]"), Texts.field("\"v\"", "\"int\""));
         fits(list, list, true);
         fits(list.replace("\"int\"", "\"string\""), list, false);
+        // However often the two are asked for again, what comes late on another way is asked as well.
+        String late = Texts.record("\"S\"", Texts.field("\"t\"", Texts.record("\"T\"", Texts.field("\"u\"", Texts.record("\"U\"",
+            Texts.field("\"x\"", "\"int\""))))));
+        String often = Texts.record("\"R\"", Kit.times("{\"name\":\"f#\",\"type\":\"R\"}", ",", 31), Texts.field("\"s\"", late));
+        fits(often, often, true);
+        fits(often, often.replace("\"int\"", "\"long\""), true);
+        fits(often.replace("\"int\"", "\"long\""), often, false);
+    }
+
+    /** "14 it lies in 16 others" bounds the way down that fits and matches have to go: fifteen levels of both. */
+    private static void askedAsDeepAsSchemasLie() {
+        String[] around = {"[{\"type\":\"array\",\"items\":", "[{\"type\":\"map\",\"values\":"};
+        for (String level : around) {
+            // Fourteen levels, every other one a union; the fifteenth is a union too.
+            String open = level.repeat(7) + "[";
+            String close = "]" + "}]".repeat(7);
+            fits(open + "\"int\"" + close, open + "\"int\"" + close, true);
+            fits(open + "\"int\"" + close, open + "\"long\"" + close, true);
+            fits(open + "\"long\"" + close, open + "\"int\"" + close, false);
+            matches(open + "\"long\"" + close, open + "\"int\"" + close, true);
+            String plainOpen = level.substring(1).repeat(15);
+            String plainClose = "}".repeat(15);
+            fits(plainOpen + "\"int\"" + plainClose, plainOpen + "\"long\"" + plainClose, true);
+            fits(plainOpen + "\"long\"" + plainClose, plainOpen + "\"int\"" + plainClose, false);
+            matches(plainOpen + "\"int\"" + plainClose, plainOpen + "\"long\"" + plainClose, true);
+            matches(plainOpen + "\"long\"" + plainClose, plainOpen + "\"int\"" + plainClose, false);
+            matches(plainOpen + "\"int\"" + plainClose, plainOpen.substring(0, plainOpen.length() * 14 / 15) + "\"int\""
+                + plainClose.substring(1), false);
+            // A way down within a field of a record, to the deepest level there.
+            String inner = "{\"type\":\"record\",\"name\":\"R\",\"fields\":[{\"name\":\"a\",\"type\":" + level.substring(1).repeat(14);
+            String innerClose = "}".repeat(14) + "}]}";
+            fits(inner + "\"R\"" + innerClose, inner + "\"R\"" + innerClose, true);
+            fits(inner + "\"R\"" + innerClose, inner + "\"int\"" + innerClose, false);
+        }
+    }
+
+    /** "An object is used for at most 512 calls": the last of them answers as the first did. */
+    private static void callsOf512() {
+        SchemaReader x = new SchemaReader();
+        for (int round = 0; round < 46; round++) {
+            x.end(0);
+            KIT.due("feed in round " + round, x.feed(0x22696e74, 0x22202020, 0x20202020, 0x20202020, 0x20202020), 20);
+            x.end(5);
+            KIT.due("schema() in round " + round, x.schema(), 0);
+            KIT.due("place() in round " + round, x.place(), SchemaReader.NONE);
+            KIT.due("size() in round " + round, x.size(), 5);
+            KIT.due("letter(4) in round " + round, x.letter(4), '"');
+            KIT.due("print() in round " + round, x.print(), INT_PRINT);
+            KIT.due("keep in round " + round, x.keep(round % 8), Math.min(round + 1, 8));
+            KIT.due("fits in round " + round, x.fits(round % 8, 0), true);
+            KIT.due("matches in round " + round, x.matches(0, round % 8), true);
+        }
+        // 46 rounds of 11 calls are 506; these are the last six.
+        KIT.due("schema(), call 507", x.schema(), 0);
+        KIT.due("keep(7), call 508", x.keep(7), 8);
+        KIT.due("fits(7, 0), call 509", x.fits(7, 0), true);
+        KIT.dueThrow("keep(7), call 510", () -> x.keep(7), IllegalStateException.class);
+        KIT.due("schema(), call 511", x.schema(), 0);
+        KIT.due("print(), call 512", x.print(), INT_PRINT);
     }
 }

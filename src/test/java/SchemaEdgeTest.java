@@ -16,6 +16,7 @@ final class SchemaEdgeTest {
         branches1to16();
         branchesOnce();
         namesOf1to32();
+        longestNamesAreKnownAgain();
         namesLetters();
         namesTaken();
         namesDefinedFromHereOn();
@@ -186,6 +187,29 @@ final class SchemaEdgeTest {
         }
     }
 
+    /** Names of 32 are told apart, and known again, to their last letter. */
+    private static void longestNamesAreKnownAgain() {
+        String name = Texts.quoted("n".repeat(32));
+        String[] others = {Texts.quoted("n".repeat(31)), Texts.quoted("n".repeat(31) + "m"), Texts.quoted("m" + "n".repeat(31))};
+        good("[" + Texts.array(Texts.fixed(name, "1")) + "," + name + "]", Texts.enumOf("\"E\"", "[" + name + "]", name),
+            Texts.record(name, Texts.field("\"a\"", name)), Texts.record(name, Texts.field(name, "{\"type\":" + name + "}")),
+            Texts.withDefault(Texts.enumOf("\"E\"", "[" + name + "]"), name),
+            Texts.withDefault(Texts.record("\"S\"", Texts.field(name, "\"int\"")), "{" + name + ":1}"));
+        faults(9, "[" + Texts.fixed(name, "1") + "," + Texts.fixed("@" + name, "1") + "]",
+            Texts.record("\"R\"", Texts.field(name, "\"int\""), Texts.field("@" + name, "\"int\"")));
+        faults(6, "[" + Texts.fixed(name, "1") + ",@" + name + "]");
+        faults(11, Texts.enumOf("\"E\"", "[" + name + ",@" + name + "]"));
+        for (String other : others) {
+            good("[" + Texts.fixed(name, "1") + "," + Texts.fixed(other, "1") + "]", Texts.enumOf("\"E\"", "[" + name + "," + other + "]"),
+                Texts.record("\"R\"", Texts.field(name, "\"int\""), Texts.field(other, "\"int\"")));
+            faults(3, "[" + Texts.fixed(name, "1") + ",@" + other + "]", "[" + Texts.fixed(other, "1") + ",@" + name + "]");
+            faults(12, Texts.enumOf("\"E\"", "[" + name + "]", "@" + other), Texts.enumOf("\"E\"", "[" + other + "]", "@" + name),
+                Texts.withDefault(Texts.record("\"S\"", Texts.field(name, "\"int\"")), "@{" + other + ":1}"));
+        }
+        faults(3, "[" + Texts.fixed(name, "1") + ",@" + Texts.quoted("n".repeat(33)) + "]");
+        faults(12, Texts.enumOf("\"E\"", "[" + name + "]", "@" + Texts.quoted("n".repeat(33))));
+    }
+
     /** "letters, digits and _, no digit first": every byte as the first, and as the last one. */
     private static void namesLetters() {
         for (int b = 0; b < 256; b++) {
@@ -235,6 +259,10 @@ final class SchemaEdgeTest {
         KIT.dueFault(x, Texts.fixed("\"A\"", "2"), 0, SchemaReader.NONE);
         x.keep(0);
         KIT.dueFault(x, "[\"A\"]", 3, 1);
+        // Nor is a piece of the next one's plain form a name where the first one's plain form had one.
+        KIT.dueFault(x, "[" + Texts.fixed("\"A\"", "1") + "]", 0, SchemaReader.NONE);
+        String next = "[\"long\"," + Texts.record("\"E\"", Texts.field("\"a\"", "@\"name\"")) + "]";
+        KIT.dueFault(x, next.replace("@", ""), 3, next.indexOf('@'));
     }
 
     /** "10 at it unless it is a number 0 .. 64". */

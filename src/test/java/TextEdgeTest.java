@@ -22,6 +22,7 @@ final class TextEdgeTest {
         tapeEndsTooEarly();
         bracketsOf24();
         membersOnce();
+        membersOnceEachTime();
         firstFaultOfTheTextIsTold();
         KIT.end();
     }
@@ -291,6 +292,17 @@ final class TextEdgeTest {
         String long1 = "a".repeat(2000);
         KIT.dueFault("{\"" + long1 + "\":0,\"" + long1 + "b\":0}", 7, 0);
         KIT.dueFault("{\"" + long1 + "\":0,\"" + long1 + "\":0}", 1, 2006);
+    }
+
+    /** "The tape (which stays)": however often it is looked at, the members of one time are not those of another. */
+    private static void membersOnceEachTime() {
+        SchemaReader x = new SchemaReader();
+        Kit.put(x, "{" + Kit.times("\"#\":0", ",", 520) + "}");
+        for (int i = 0; i < 10; i++) {
+            KIT.due("schema() time " + i, x.schema(), 7);
+        }
+        KIT.dueFault(x, "{\"a\":1,\"b\":1,\"a\":1}", 1, 13);
+        KIT.dueFault(x, "{\"a\":1,\"b\":1}", 7, 0);
     }
 
     /** "the first byte that cannot stand where it does": what comes behind it does not count. */
