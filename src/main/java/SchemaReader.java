@@ -13,6 +13,8 @@ public final class SchemaReader {
     private static final long PRINT_START = 0xC15D213AA4D7A795L;
 
     private final Text text;
+    private final Couples dueDefaults;
+    private final Couples askedRecords;
     private final Schema[] kept;
     private final long[] printSteps;
     private Schema latest;
@@ -28,6 +30,8 @@ public final class SchemaReader {
             printSteps[i] = printStep(i);
         }
         latest = new Schema();
+        dueDefaults = new Couples();
+        askedRecords = new Couples();
         hasLatest = false;
         faultPlace = NONE;
         keptCount = 0;
@@ -53,7 +57,7 @@ public final class SchemaReader {
     }
 
     public int schema() {
-        Looker looker = new Looker(text, latest);
+        Looker looker = new Looker(text, latest, dueDefaults);
         int fault = looker.read();
         hasLatest = fault == 0;
         faultPlace = looker.faultPlace();
@@ -124,7 +128,7 @@ public final class SchemaReader {
         if (writer == null || reader == null) {
             throw new IllegalStateException("a place keeps no schema");
         }
-        return new Pair(writer, reader);
+        return new Pair(writer, reader, askedRecords);
     }
 
     private static boolean isPlace(int place) {
@@ -145,6 +149,12 @@ public final class SchemaReader {
 
     private static int entry(int[] row, int i) {
         return i >= 0 && i < row.length ? row[i] : NONE;
+    }
+
+    private static void enter(int[] row, int i, int number) {
+        if (i >= 0 && i < row.length) {
+            row[i] = number;
+        }
     }
 
     private static boolean isDigit(int b) {
@@ -418,8 +428,8 @@ public final class SchemaReader {
                 return refuse(p);
             }
             int close = isObject(p) ? '}' : ']';
-            amount[p] = 0;
-            inner[p] = NONE;
+            enter(amount, p, 0);
+            enter(inner, p, NONE);
             int part = behindBlanks(p + 1);
             if (byteAt(part) == close) {
                 return part + 1;
@@ -432,7 +442,7 @@ public final class SchemaReader {
                     return NONE;
                 }
                 join(p, last, part);
-                amount[p] = count;
+                enter(amount, p, count);
                 int mark = behindBlanks(behind);
                 if (byteAt(mark) == close) {
                     return mark + 1;
@@ -448,11 +458,11 @@ public final class SchemaReader {
 
         private void join(int group, int last, int part) {
             if (last == NONE) {
-                inner[group] = part;
+                enter(inner, group, part);
             } else {
-                next[last] = part;
+                enter(next, last, part);
             }
-            next[part] = NONE;
+            enter(next, part, NONE);
         }
 
         /** Reads a member's string and its colon: the place of the member's value, or NONE. */
@@ -472,7 +482,7 @@ public final class SchemaReader {
                 return refuse(colon);
             }
             int value = behindBlanks(colon + 1);
-            inner[p] = value;
+            enter(inner, p, value);
             return value;
         }
 
@@ -481,7 +491,7 @@ public final class SchemaReader {
             for (int q = p + 1; q < length; q++) {
                 int b = byteAt(q);
                 if (b == '"') {
-                    amount[p] = count;
+                    enter(amount, p, count);
                     return q + 1;
                 }
                 if (b < 32 || b > 126) {
@@ -494,10 +504,16 @@ public final class SchemaReader {
                     }
                     q += byteAt(q + 1) == 'u' ? 5 : 1;
                 }
-                said[p + count] = (byte) b;
+                say(p + count, b);
                 count++;
             }
             return refuse(length);
+        }
+
+        private void say(int p, int b) {
+            if (p >= 0 && p < said.length) {
+                said[p] = (byte) b;
+            }
         }
 
         /** The byte for which the escape at p stands, or NONE. */
@@ -893,6 +909,46 @@ public final class SchemaReader {
         }
     }
 
+    /** A list of two numbers each, no more than a schema has slots; its rows serve all calls. */
+    private static final class Couples {
+        private final int[] firsts = new int[Schema.MOST];
+        private final int[] seconds = new int[Schema.MOST];
+        private int count = 0;
+
+        void clear() {
+            count = 0;
+        }
+
+        int count() {
+            return count;
+        }
+
+        int first(int i) {
+            return entry(firsts, i);
+        }
+
+        int second(int i) {
+            return entry(seconds, i);
+        }
+
+        void add(int a, int b) {
+            if (count < Schema.MOST) {
+                enter(firsts, count, a);
+                enter(seconds, count, b);
+                count++;
+            }
+        }
+
+        boolean has(int a, int b) {
+            for (int i = 0; i < count; i++) {
+                if (entry(firsts, i) == a && entry(seconds, i) == b) {
+                    return true;
+                }
+            }
+            return false;
+        }
+    }
+
     /** Looks at the value of a text as a schema, and fills the rows of one. */
     private static final class Looker {
         private static final int BRANCHES_MOST = 16;
@@ -902,15 +958,15 @@ public final class SchemaReader {
 
         private final Text text;
         private final Schema schema;
-        private final int[] dueSlots = new int[Schema.MOST];
-        private final int[] dueValues = new int[Schema.MOST];
-        private int dueCount = 0;
+        // The slot of a field's type, and the value of its default.
+        private final Couples due;
         private int fault = 0;
         private int faultPlace = NONE;
 
-        Looker(Text text, Schema schema) {
+        Looker(Text text, Schema schema, Couples due) {
             this.text = text;
             this.schema = schema;
+            this.due = due;
         }
 
         int faultPlace() {
@@ -920,6 +976,7 @@ public final class SchemaReader {
         /** 0, or the fault. */
         int read() {
             schema.clear();
+            due.clear();
             int v = text.read();
             if (v == NONE) {
                 refuse(Fault.TEXT, text.wrongPlace());
@@ -937,8 +994,8 @@ public final class SchemaReader {
 
         private void checkDefaults() {
             Defaults defaults = new Defaults(text, schema);
-            for (int i = 0; i < dueCount; i++) {
-                int p = defaults.misfit(dueSlots[i], dueValues[i], 0);
+            for (int i = 0; i < due.count(); i++) {
+                int p = defaults.misfit(due.first(i), due.second(i), 0);
                 if (p != NONE) {
                     refuse(Fault.BAD_DEFAULT, p);
                     return;
@@ -1169,8 +1226,9 @@ public final class SchemaReader {
             schema.writeByte('}');
             int value = text.member(field, "default");
             schema.setField(slot, name, value != NONE);
+            // Only now, when its type is done: so it comes behind the fields that lie in its type.
             if (value != NONE) {
-                addDue(slot, value);
+                due.add(slot, value);
             }
             return slot;
         }
@@ -1190,15 +1248,6 @@ public final class SchemaReader {
                 return refuse(Fault.MEMBER_LACKS, field);
             }
             return true;
-        }
-
-        /** Called when a field's type is done, which puts it behind the fields that lie in its type. */
-        private void addDue(int slot, int value) {
-            if (dueCount < dueSlots.length) {
-                dueSlots[dueCount] = slot;
-                dueValues[dueCount] = value;
-                dueCount++;
-            }
         }
     }
 
@@ -1299,14 +1348,13 @@ public final class SchemaReader {
 
         private final Schema writer;
         private final Schema reader;
-        // Two records are asked for once, as only those of the same name are asked for at all.
-        private final int[] askedWriters = new int[Schema.MOST];
-        private final int[] askedReaders = new int[Schema.MOST];
-        private int askedCount = 0;
+        // Each of the writer's records is there once at most, as it is asked for with that of its name alone.
+        private final Couples asked;
 
-        Pair(Schema writer, Schema reader) {
+        Pair(Schema writer, Schema reader, Couples asked) {
             this.writer = writer;
             this.reader = reader;
+            this.asked = asked;
         }
 
         boolean isMatch(int w, int r) {
@@ -1349,12 +1397,13 @@ public final class SchemaReader {
          * fitting there, and are looked into later, once: no way down gets long.
          */
         boolean isWholeFit() {
-            askedCount = 0;
+            asked.clear();
             if (!isFit(0, 0, 0)) {
                 return false;
             }
-            for (int i = 0; i < askedCount; i++) {
-                if (!isFieldsFit(askedWriters[i], askedReaders[i])) {
+            // More of them may be asked for on the way.
+            for (int i = 0; i < asked.count() && i < Schema.MOST; i++) {
+                if (!isFieldsFit(asked.first(i), asked.second(i))) {
                     return false;
                 }
             }
@@ -1430,15 +1479,8 @@ public final class SchemaReader {
         }
 
         private void ask(int w, int r) {
-            for (int i = 0; i < askedCount; i++) {
-                if (askedWriters[i] == w && askedReaders[i] == r) {
-                    return;
-                }
-            }
-            if (askedCount < askedWriters.length) {
-                askedWriters[askedCount] = w;
-                askedReaders[askedCount] = r;
-                askedCount++;
+            if (!asked.has(w, r)) {
+                asked.add(w, r);
             }
         }
 

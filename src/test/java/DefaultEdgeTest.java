@@ -166,6 +166,14 @@ final class DefaultEdgeTest {
         fit(Texts.map("\"R\""), maps + "{}" + "}}".repeat(10));
         misfit(Texts.map("\"R\""), maps + "@[]" + "}}".repeat(10), maps + "{\"k\":@1}" + "}}".repeat(10));
         KIT.dueFaultAt(Texts.withDefault(Texts.map("\"R\""), maps + "{\"k\":@{}}" + "}}".repeat(10)), 1);
+        // A number in the 21st bracket of the default, which is the 24th of the text.
+        String head = "{\"type\":\"record\",\"name\":\"R\",\"fields\":[{\"name\":\"g\",\"type\":" + Texts.array("\"int\"")
+            + "},{\"name\":\"f\",\"type\":" + Texts.array("\"R\"") + ",\"default\":";
+        String open = "[{\"g\":[],\"f\":".repeat(9) + "[{\"f\":[],\"g\":[";
+        String close = "]}]" + "}]".repeat(9) + "}]}";
+        KIT.dueGood(head + open + "1" + close);
+        KIT.dueFaultAt(head + open + "1,@null" + close, 12);
+        KIT.dueFaultAt(head + open + "@[]" + close, 1);
         misfit("[\"R\"]", "{\"f\":".repeat(20) + "@{}" + "}".repeat(20), "{\"f\":".repeat(21) + "@1" + "}".repeat(21));
     }
 

@@ -78,9 +78,8 @@ final class FitsTest {
         due("[\"null\",\"int\",\"boolean\"]", "[\"long\",\"null\",\"string\"]", false);
         due("[\"bytes\",\"string\"]", "\"string\"", true);
         due("\"boolean\"", "[\"null\",\"int\"]", false);
-        // Only the first branch that matches is asked, though a later one would fit.
-        String first = array("[\"null\"]");
-        due(array("\"int\""), "[" + first + "]", false);
+        // A union within matches anything, so it is there, and still does not fit.
+        due(array("\"int\""), "[" + array("[\"null\"]") + "]", false);
         due("[" + record("R", field("a", "\"int\"")) + "]", "[\"null\"," + record("R", field("a", "\"long\"")) + "]", true);
         due("\"int\"", "[\"long\",\"int\"]", true);
         due("\"long\"", "[\"int\",\"long\"]", true);
@@ -140,6 +139,10 @@ final class FitsTest {
         due(ab, record("R", field("a", "\"string\"", "\"x\"")), true);
         due(ab, record("R", field("a", "[\"null\",\"boolean\"]", "null"), field("b", "\"string\"")), true);
         due(ab, record("R", field("a", "[\"null\",\"boolean\"]", "null"), field("b", "\"int\"")), false);
+        // The writer's default serves nobody.
+        due(record("R", field("a", "\"long\"", "1")), record("R", field("a", "\"int\"")), false);
+        due(record("R", field("a", "\"int\"", "1")), record("R", field("b", "\"int\"")), false);
+        due(record("R", field("a", "\"long\"", "1")), record("R", field("a", "\"long\"")), true);
         // The default that counts is that of the field, not that of what it means elsewhere.
         String inner = record("S", field("x", "\"int\""));
         due(record("R", field("p", inner)), record("R", field("p", inner), field("q", "\"S\"", "{\"x\":1}")), true);

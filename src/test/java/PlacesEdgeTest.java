@@ -22,6 +22,7 @@ final class PlacesEdgeTest {
         askAtEveryPlace();
         askNowhere();
         askWhatKeepsNone();
+        askedAnewEachTime();
         branchesOfTheWriter();
         branchesOfTheReader();
         sizesOfFixed();
@@ -288,6 +289,25 @@ final class PlacesEdgeTest {
         KIT.dueThrow("matches(7, 7) when nothing is kept", () -> none.matches(7, 7), IllegalStateException.class);
     }
 
+    /** "Whether what is kept at a place fits what is kept at another one": all of eight, whatever was asked before. */
+    private static void askedAnewEachTime() {
+        String[] texts = {Texts.record("\"R\""), Texts.record("\"R\"", Texts.field("\"a\"", "\"int\"")),
+            Texts.array(Texts.record("\"S\"", Texts.field("\"r\"", Texts.record("\"R\"", Texts.field("\"a\"", "\"long\""))))),
+            "[\"null\"," + Texts.record("\"R\"", Texts.field("\"a\"", "\"long\"", "1"), Texts.field("\"b\"", "\"R\"")) + "]", "\"int\"",
+            Texts.record("\"S\"", Texts.field("\"a\"", "[\"null\",\"S\"]"), Texts.field("\"r\"", Texts.record("\"R\""))),
+            Texts.map(Texts.fixed("\"R\"", "1")), Texts.enumOf("\"S\"", "[\"a\"]")};
+        SchemaReader x = Kit.keeping(texts);
+        // 37 is odd, so each of the 64 pairs is asked once, and each behind one that has nothing to do with it.
+        for (int i = 0; i < 64; i++) {
+            int w = i * 37 % 64 / 8;
+            int r = i * 37 % 64 % 8;
+            SchemaReader alone = Kit.keeping(texts[w], texts[r]);
+            KIT.due("matches(" + w + ", " + r + ")", x.matches(w, r), alone.matches(0, 1));
+            KIT.due("fits(" + w + ", " + r + ")", x.fits(w, r), alone.fits(0, 1));
+            KIT.due("fits(" + w + ", " + w + ")", x.fits(w, w), true);
+        }
+    }
+
     private static void fits(String w, String r, boolean due) {
         KIT.due(w + " fits " + r, Kit.keeping(w, r).fits(0, 1), due);
     }
@@ -319,7 +339,7 @@ final class PlacesEdgeTest {
         fits("\"int\"", names(15, ",\"null\""), false);
         fits("\"int\"", "[\"int\"]", true);
         fits("\"int\"", "[\"null\"]", false);
-        // The first that matches does not fit; what comes behind it is not asked.
+        // The branch that matches does not fit, as an array of a union matches any array.
         String mismatch = Texts.array("[\"null\"]");
         fits(Texts.array("\"int\""), "[\"int\"," + mismatch + "]", false);
         String enumA = Texts.enumOf("\"E\"", "[\"a\"]");

@@ -46,7 +46,12 @@ final class SchemaEdgeTest {
 
     /** A record in which so many schemas are looked at before the last value. */
     private static String behind(int n, String last) {
-        String fields = Kit.times(UNION_OF_3, ",", (n - 1) / 4);
+        return behind(n, last, UNION_OF_3);
+    }
+
+    /** The same, with fields in each of which four schemas are looked at. */
+    private static String behind(int n, String last, String field) {
+        String fields = Kit.times(field, ",", (n - 1) / 4);
         String type = Texts.arrays((n - 1) % 4, last);
         return Texts.record("\"R\"", fields, Texts.field("\"z\"", type));
     }
@@ -73,6 +78,16 @@ final class SchemaEdgeTest {
         String symbols = Texts.list(32, "\"s#\"");
         good(behind(127, Texts.enumOf("\"E\"", symbols)), behind(126, Texts.array("{\"type\":\"R\",\"doc\":[\"int\",\"int\"]}")));
         good("{\"type\":\"int\",\"items\":" + Texts.list(200, "\"int\"") + "}");
+        // However it is written, a schema is one, and a name that stood before is one as well.
+        String[] fours = {"[{\"type\":\"int\"},{\"type\":\"null\"},{\"type\":\"R\"}]", "[\"R\",\"int\",{\"type\":\"long\"}]",
+            "[\"null\"," + Texts.array("\"R\"") + "]", "[" + Texts.map("{\"type\":\"R\"}") + ",\"R\"]", Texts.arrays(3, "\"R\""),
+            Texts.record("\"S#\"", Texts.field("\"a\"", "[\"R\",\"S#\"]")),
+            "[\"int\"," + Texts.fixed("\"F#\"", "1") + "," + Texts.enumOf("\"E#\"", "[\"a\",\"b\"]") + "]"};
+        for (String four : fours) {
+            String field = "{\"name\":\"f#\",\"type\":" + four + "}";
+            good(behind(127, "\"int\"", field), behind(126, "[\"R\"]", field), behind(127, "{\"type\":\"R\"}", field));
+            faults(13, behind(128, "@\"int\"", field), behind(128, "@\"R\"", field), behind(127, "[@\"R\"]", field));
+        }
         // A text that was looked at before does not count for the next one.
         SchemaReader x = new SchemaReader();
         for (int i = 0; i < 3; i++) {
@@ -252,6 +267,20 @@ final class SchemaEdgeTest {
             Texts.record("\"R\"", Texts.field("\"a\"", Texts.record("\"S\"")), Texts.field("\"b\"", "\"S\"")),
             "[" + Texts.array(Texts.map(Texts.fixed("\"A\"", "1"))) + ",\"A\"]");
         faults(9, Texts.record("\"R\"", Texts.field("\"a\"", Texts.record("@\"R\""))));
+        // Known to the end of the text, also behind what it was defined in.
+        for (String definition : new String[] {Texts.fixed("\"A\"", "1"), Texts.enumOf("\"A\"", "[\"a\"]"), Texts.record("\"A\"")}) {
+            String within = Texts.record("\"R\"", Texts.field("\"a\"", Texts.record("\"S\"", Texts.field("\"b\"", Texts.map(definition)))),
+                Texts.field("\"c\"", "\"A\""));
+            good("[" + within + ",\"A\",{\"type\":\"S\"}]", "[" + within + "," + Texts.array("{\"type\":\"A\"}") + "]");
+            faults(9, "[" + within + "," + Texts.fixed("@\"A\"", "1") + "]", "[" + within + "," + Texts.record("@\"S\"") + "]");
+            faults(6, "[" + within + ",\"A\",@{\"type\":\"A\"}]");
+        }
+        // The names of fields and symbols define nothing.
+        String names = Texts.record("\"R\"", Texts.field("\"A\"", Texts.enumOf("\"E\"", "[\"B\"]")));
+        good("[" + names + "," + Texts.fixed("\"A\"", "1") + "," + Texts.record("\"B\"") + "]",
+            Texts.record("\"R\"", Texts.field("\"A\"", "\"int\""), Texts.field("\"b\"", Texts.fixed("\"A\"", "1"))),
+            Texts.record("\"R\"", Texts.field("\"A\"", Texts.fixed("\"A\"", "1"))), Texts.enumOf("\"E\"", "[\"E\"]"));
+        faults(3, "[" + names + ",@\"A\"]", "[" + names + ",@\"B\"]", "[" + names + ",{\"type\":@\"B\"}]");
         // In the text and not behind it: what one text defines, the next one does not know.
         SchemaReader x = new SchemaReader();
         KIT.dueFault(x, Texts.fixed("\"A\"", "1"), 0, SchemaReader.NONE);

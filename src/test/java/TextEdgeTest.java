@@ -20,6 +20,7 @@ final class TextEdgeTest {
         firstDigits();
         numbersBounds();
         tapeEndsTooEarly();
+        whatIsCutOffIsGone();
         bracketsOf24();
         membersOnce();
         membersOnceEachTime();
@@ -251,6 +252,29 @@ final class TextEdgeTest {
         }
     }
 
+    /** "The tape is cut behind its first n bytes": those behind them are not read, though they were fed. */
+    private static void whatIsCutOffIsGone() {
+        String[] texts = {"\"int\"", "[\"int\",{\"type\":\"null\",\"x\":[true,false,null,-10,\"\\u00e9\\n\"],\"y\":{}}]",
+            "{\"type\":\"fixed\",\"name\":\"F\",\"size\":10}"};
+        for (String text : texts) {
+            SchemaReader x = new SchemaReader();
+            KIT.dueFault(x, text, 0, SchemaReader.NONE);
+            for (int n = text.length() - 1; n >= 0; n--) {
+                x.end(n);
+                KIT.due("schema() of " + text + " cut behind " + n, x.schema(), 1);
+                KIT.due("place() of " + text + " cut behind " + n, x.place(), n);
+            }
+        }
+        // What is left is whole, and what was cut off would have gone on or been wrong.
+        SchemaReader x = new SchemaReader();
+        Kit.put(x, "19223372036854775807");
+        x.end(19);
+        KIT.due("schema() of a number's first digits", x.schema(), 2);
+        Kit.put(x, "\"int\"]");
+        x.end(5);
+        KIT.due("schema() without the bracket behind it", x.schema(), 0);
+    }
+
     /** "a 25th { or [ within one another". */
     private static void bracketsOf24() {
         for (int lists = 0; lists <= 24; lists++) {
@@ -289,6 +313,16 @@ final class TextEdgeTest {
         KIT.dueFault("{" + members + "}", 7, 0);
         KIT.dueFault("{" + members + ",\"519\":0}", 1, members.length() + 2);
         KIT.dueFault("{" + members + ",\"0\":0}", 1, members.length() + 2);
+        // All bytes that there are, and strings that a sum of their bytes might take for the same.
+        StringBuilder bytes = new StringBuilder();
+        for (int b = 0; b < 256; b++) {
+            bytes.append(b == 0 ? "" : ",").append(Texts.quoted(Texts.escaped(b))).append(":0");
+        }
+        KIT.dueFault("{" + bytes + "}", 7, 0);
+        KIT.dueFault("{" + bytes + ",\"\\u00FF\":0}", 1, bytes.length() + 2);
+        KIT.dueFault("{" + bytes + ",\"\\u0000\":0}", 1, bytes.length() + 2);
+        KIT.dueFault("{\"Aa\":0,\"BB\":0,\"AaAa\":0,\"BBBB\":0,\"AaBB\":0,\"BBAa\":0,\"ab\":0,\"ba\":0,\"c\":0,\"\":0}", 7, 0);
+        KIT.dueFaultAt("{\"Aa\":0,\"BB\":0,\"C#\":0,@\"Aa\":0}", 1);
         String long1 = "a".repeat(2000);
         KIT.dueFault("{\"" + long1 + "\":0,\"" + long1 + "b\":0}", 7, 0);
         KIT.dueFault("{\"" + long1 + "\":0,\"" + long1 + "\":0}", 1, 2006);
