@@ -162,6 +162,9 @@ final class FitsTest {
         String self = record("R", field("r", "\"R\""));
         due(self, self, true);
         due(self, record("R", field("r", "\"R\""), field("x", "\"int\"")), false);
+        // A field that the writer lacks is not there for its type's being asked for already.
+        due(record("R"), self, false);
+        due(record("R", field("s", "\"R\"")), self, false);
         due(record("A", field("b", record("B", field("a", "\"A\""), field("b", array("\"B\""))))),
             record("A", field("b", record("B", field("b", array("\"B\"")), field("a", "\"A\"")))), true);
         // What fails behind a name that is being asked for still fails.

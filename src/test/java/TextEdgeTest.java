@@ -337,6 +337,10 @@ final class TextEdgeTest {
         }
         KIT.dueFault(x, "{\"a\":1,\"b\":1,\"a\":1}", 1, 13);
         KIT.dueFault(x, "{\"a\":1,\"b\":1}", 7, 0);
+        // Longer strings stood where the two stand now; what is left of them is no part of these.
+        KIT.dueFault(x, "{\"abcdef\":1,\"ghijkl\":1,\"\":1}", 7, 0);
+        KIT.dueFault(x, "{\"a\":1,\"a\":1}", 1, 7);
+        KIT.dueFault(x, "{\"\":1, \"\":1}", 1, 7);
     }
 
     /** "the first byte that cannot stand where it does": what comes behind it does not count. */
